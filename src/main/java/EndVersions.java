@@ -457,12 +457,10 @@ public final class EndVersions {
             cost = 0;
             extra = 0;
             boolean atFront = isAtFront(act);
-            if (!isPush(act)) {
-                fetchFromOtherPart(atFront);
-            }
             if (isPush(act)) {
                 put(value, atFront);
             } else {
+                fetchFromOtherPart(atFront);
                 take(atFront);
             }
             cost++;

@@ -31,6 +31,11 @@ public final class ModelTest {
     }
 
     private void play() {
+        if (habit == 4) {
+            // Debts that last and acts that come in rows bring goals down to 0 beside a part of more than one.
+            compare("run " + run + ", rate 1", () -> rows.set(0, 1), () -> model.set(0, 1));
+            compare("run " + run + ", ratio 2", () -> rows.set(1, 2), () -> model.set(1, 2));
+        }
         for (int call = 0; call < CALLS; call++) {
             String what = "run " + run + ", call " + call;
             if (call % 8 == 7) {
@@ -133,13 +138,13 @@ public final class ModelTest {
             appendByte(what, draw(5) == 0 ? ODD[draw(ODD.length)] : draw(128));
             return;
         }
-        if (draw(25) == 0) {
+        if (draw(habit == 0 ? 6 : 25) == 0) {
             appendByte(what, "fbxy;-0123456789".charAt(draw(16)));
             return;
         }
         int acts = 1 + draw(8);
         for (int i = 0; i < acts; i++) {
-            String act = anyAct();
+            String act = anyAct().repeat(habit == 4 ? 1 + draw(9) : 1);
             for (int place = 0; place < act.length(); place++) {
                 appendByte(what, act.charAt(place));
             }

@@ -776,11 +776,12 @@ public final class PromisesTest {
         rows.append('1');
         checks.outOfBounds("the version is looked at first", () -> rows.leastRate(-1));
         checks.badState("a syntax error", () -> rows.leastRate(0));
+        higherLeastRates();
         highestLeastRate();
     }
 
     // With the ratio 2, eight in front beside two begin a rebuild; two pops take the back part, the third one stalls.
-    private static void highestLeastRate() {
+    private static void higherLeastRates() {
         EndVersions rows = new EndVersions();
         rows.set(1, 5);
         write(rows, "b1;f2;b3;f4;f5;f6;f7;f8;f9;");
@@ -793,7 +794,24 @@ public final class PromisesTest {
         same("it stalls with 4", rows.stalls(9, 4), 1);
         rows.clearText();
         write(rows, "f0;f0;f0;f0;f0;f0;f0;y;y;y;");
-        same("the debt 10 is paid by one step each", rows.leastRate(9), 2);
+        same("the debt 10 has six acts more to be paid in", rows.leastRate(9), 2);
+    }
+
+    // A pop at the back leaves two beside fifteen: the debt 17 is to be paid while these two are popped.
+    private static void highestLeastRate() {
+        EndVersions rows = new EndVersions();
+        rows.set(1, 5);
+        write(rows, "b1;f2;b3;f4;b5;" + "f6;".repeat(13));
+        same("eighteen acts", rows.run(0), 18);
+        factsAre("the ratio 5 lets fifteen stand beside three", rows, 18, "18 15 3 0 -1 1 0");
+        rows.clearText();
+        write(rows, "y;y;y;");
+        same("no part is empty yet", rows.leastRate(18), 1);
+        write(rows, "y;");
+        same("only the rate 9 pays it in two acts", rows.leastRate(18), 9);
+        same("it stalls with 8", rows.stalls(18, 8), 1);
+        same("the stall with 8 takes the 1 that is left", rows.worstWith(18, 8), 9);
+        same("the stall with 1 takes 15", rows.worstWith(18, 1), 16);
     }
 
     // ---- promise 24
@@ -839,23 +857,33 @@ public final class PromisesTest {
 
     private static void undoOfEach() {
         EndVersions rows = withText("f1;b2;y;");
-        rows.push(0, 9, FRONT);
-        long before = rows.digest();
-        rows.set(1, 4);
-        rows.undo();
-        rows.push(1, 8, FRONT);
-        rows.undo();
-        rows.pop(1, FRONT);
-        rows.undo();
-        rows.drop();
-        rows.undo();
-        rows.clear();
-        rows.undo();
-        rows.run(1);
-        rows.undo();
-        same("the state before all", rows.digest(), before);
+        pushMany(rows, 0, 2, FRONT);
+        rows.pop(2, BACK);
+        long before = digestOfVersions(rows);
+        int saved = 3;
+        Checks.Call[] calls = {() -> rows.set(1, 4), () -> rows.set(0, 9), () -> rows.push(1, 8, FRONT),
+            () -> rows.pop(3, FRONT), rows::drop, rows::clear, () -> rows.run(3), () -> rows.run(0)};
+        for (int i = 0; i < calls.length; i++) {
+            calls[i].answer();
+            same("undo of the act " + i, rows.undo(), saved);
+            same("the state after undo of the act " + i, digestOfVersions(rows), before);
+            same("the value after undo of the act " + i, rows.value(3), 0);
+        }
         checks.changesNothing("a wrong call", rows, () -> rows.push(5, 0, FRONT));
-        same("wrong calls save nothing", rows.undo(), 0);
+        same("wrong calls save nothing", rows.undo(), saved - 1);
+    }
+
+    private static long digestOfVersions(EndVersions rows) {
+        long hash = hash(rows.setting(0), rows.setting(1), rows.count(0));
+        for (int version = 0; version < rows.count(0); version++) {
+            for (int what = 0; what <= 9; what++) {
+                hash = 31 * hash + rows.version(version, what);
+            }
+            for (int place = 0; place < rows.version(version, 1); place++) {
+                hash = 31 * hash + rows.at(version, place);
+            }
+        }
+        return hash;
     }
 
     // ---- promise 25
