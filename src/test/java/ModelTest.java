@@ -1,4 +1,4 @@
-/** Long runs of calls, each answer compared with the model's; the calls come from a seed, so runs are always the same. */
+/** Long runs of calls, each answer compared with the model's; the calls come from a seed, so all runs stay the same. */
 public final class ModelTest {
     private static final int RUNS = 1200;
     private static final int CALLS = 512;

@@ -1,8 +1,8 @@
 /** Each of the promises 1 to 25 by hand: ordinary inputs, edges and wrong inputs. */
 public final class PromisesTest {
     private static final Checks checks = new Checks("PromisesTest");
-    private static final boolean FRONT = true;
-    private static final boolean BACK = false;
+    private static final boolean FRONT = Rows.FRONT;
+    private static final boolean BACK = Rows.BACK;
 
     private PromisesTest() {
     }
@@ -43,58 +43,12 @@ public final class PromisesTest {
         checks.equal(what, got, due);
     }
 
-    private static void write(EndVersions rows, String text) {
-        for (int i = 0; i < text.length(); i++) {
-            rows.append(text.charAt(i));
-        }
-    }
-
-    private static EndVersions withText(String text) {
-        EndVersions rows = new EndVersions();
-        write(rows, text);
-        return rows;
-    }
-
-    /** The facts size, front, back, debt, goal, cost and extra steps of a version. */
-    private static String facts(EndVersions rows, int version) {
-        StringBuilder told = new StringBuilder();
-        for (int what = 1; what <= 7; what++) {
-            told.append(what == 1 ? "" : " ").append(rows.version(version, what));
-        }
-        return told.toString();
-    }
-
-    private static String row(EndVersions rows, int version) {
-        StringBuilder told = new StringBuilder();
-        for (int place = 0; place < rows.version(version, 1); place++) {
-            told.append(place == 0 ? "" : " ").append(rows.at(version, place));
-        }
-        return told.toString();
-    }
-
     private static void factsAre(String what, EndVersions rows, int version, String due) {
-        checks.equal(what, facts(rows, version), due);
+        checks.equal(what, Rows.facts(rows, version), due);
     }
 
     private static void rowIs(String what, EndVersions rows, int version, String due) {
-        checks.equal(what, row(rows, version), due);
-    }
-
-    private static int pushMany(EndVersions rows, int from, int times, boolean front) {
-        int last = from;
-        for (int i = 0; i < times; i++) {
-            last = rows.push(last, i, front);
-        }
-        return last;
-    }
-
-    /** An object with 100 versions, all pushed onto the version 0. */
-    private static EndVersions full() {
-        EndVersions rows = new EndVersions();
-        for (int i = 1; i < 100; i++) {
-            rows.push(0, i, FRONT);
-        }
-        return rows;
+        checks.equal(what, Rows.row(rows, version), due);
     }
 
     // ---- promise 1
@@ -144,7 +98,7 @@ public final class PromisesTest {
 
     private static void settingsHoldForLaterActs() {
         EndVersions rows = new EndVersions();
-        pushMany(rows, 0, 2, FRONT);
+        Rows.pushMany(rows, 0, 2, FRONT);
         factsAre("before the settings", rows, 2, "2 2 0 2 1 1 0");
         rows.set(0, 1);
         rows.set(1, 5);
@@ -182,7 +136,7 @@ public final class PromisesTest {
     private static void pushGoalAtBack() {
         EndVersions rows = new EndVersions();
         rows.set(0, 1);
-        pushMany(rows, 0, 2, BACK);
+        Rows.pushMany(rows, 0, 2, BACK);
         factsAre("two in the back are too unequal", rows, 2, "2 0 2 2 1 1 0");
         rows.push(2, 9, BACK);
         factsAre("a push to the back leaves the goal", rows, 3, "3 0 3 1 1 2 0");
@@ -201,13 +155,13 @@ public final class PromisesTest {
         checks.badArgument("push of -1000", () -> rows.push(0, -1000, BACK));
         checks.badArgument("push of the least number", () -> rows.push(0, Integer.MIN_VALUE, BACK));
         checks.changesNothing("push of 1000", rows, () -> rows.push(0, 1000, FRONT));
-        int last = pushMany(rows, 0, 40, FRONT);
+        int last = Rows.pushMany(rows, 0, 40, FRONT);
         same("40 values fit", rows.version(last, 1), 40);
         checks.badState("push on 40 values", () -> rows.push(last, 1, FRONT));
         checks.badState("push on 40 values at the back", () -> rows.push(last, 1, BACK));
         checks.badArgument("the value is looked at before the size", () -> rows.push(last, 1000, FRONT));
         checks.changesNothing("push on 40 values", rows, () -> rows.push(last, 1, BACK));
-        EndVersions full = full();
+        EndVersions full = Rows.full();
         same("100 versions fit", full.count(0), 100);
         checks.badState("push on 100 versions", () -> full.push(0, 1, FRONT));
         checks.outOfBounds("no version 100", () -> full.push(100, 1, FRONT));
@@ -219,7 +173,7 @@ public final class PromisesTest {
 
     private static void popTest() {
         EndVersions rows = new EndVersions();
-        pushMany(rows, 0, 3, BACK);
+        Rows.pushMany(rows, 0, 3, BACK);
         rowIs("before pops", rows, 3, "0 1 2");
         factsAre("before pops", rows, 3, "3 1 2 0 -1 3 0");
         same("pop at the front", rows.pop(3, FRONT), 4);
@@ -248,11 +202,11 @@ public final class PromisesTest {
         EndVersions rows = new EndVersions();
         rows.set(0, 1);
         rows.set(1, 2);
-        write(rows, "b1;f2;b3;f4;f5;f6;f7;f8;");
+        Rows.write(rows, "b1;f2;b3;f4;f5;f6;f7;f8;");
         same("eight acts", rows.run(0), 8);
         factsAre("six in front are too many beside two", rows, 8, "8 6 2 8 4 1 0");
         rows.clearText();
-        write(rows, "x;x;x;x;x;x;x;x;");
+        Rows.write(rows, "x;x;x;x;x;x;x;x;");
         same("eight pops", rows.run(8), 8);
         factsAre("the goal sinks", rows, 12, "4 2 2 4 0 2 0");
         factsAre("the goal stays at 0", rows, 14, "2 0 2 2 0 2 0");
@@ -266,7 +220,7 @@ public final class PromisesTest {
         EndVersions rows = new EndVersions();
         rows.set(0, 1);
         rows.set(1, 2);
-        write(rows, "f1;b2;f3;b4;b5;b6;b7;b8;");
+        Rows.write(rows, "f1;b2;f3;b4;b5;b6;b7;b8;");
         rows.run(0);
         factsAre("six in the back are too many beside two", rows, 8, "8 2 6 8 4 1 0");
         int last = 8;
@@ -285,13 +239,13 @@ public final class PromisesTest {
 
     private static void popAtBackStalls() {
         EndVersions rows = new EndVersions();
-        pushMany(rows, 0, 2, FRONT);
+        Rows.pushMany(rows, 0, 2, FRONT);
         same("pop at the back beside an empty part", rows.pop(2, BACK), 3);
         factsAre("the rebuild gives one to the back part", rows, 3, "1 1 0 0 -1 3 2");
         same("the popped value", rows.value(3), 0);
         EndVersions empty = new EndVersions();
         empty.set(0, 1);
-        pushMany(empty, 0, 2, FRONT);
+        Rows.pushMany(empty, 0, 2, FRONT);
         empty.pop(2, FRONT);
         factsAre("a goal sinks to 0", empty, 3, "1 1 0 1 0 2 0");
         empty.pop(3, FRONT);
@@ -305,7 +259,7 @@ public final class PromisesTest {
         checks.noElement("pop on an empty row", () -> rows.pop(0, FRONT));
         checks.noElement("pop on an empty row at the back", () -> rows.pop(0, BACK));
         checks.changesNothing("pop on an empty row", rows, () -> rows.pop(0, BACK));
-        EndVersions full = full();
+        EndVersions full = Rows.full();
         checks.badState("pop on 100 versions", () -> full.pop(99, FRONT));
         checks.noElement("the row is looked at before the versions", () -> full.pop(0, FRONT));
         checks.outOfBounds("the version is looked at first", () -> full.pop(100, FRONT));
@@ -318,7 +272,7 @@ public final class PromisesTest {
         EndVersions rows = new EndVersions();
         checks.badState("drop of the version 0", rows::drop);
         checks.changesNothing("drop of the version 0", rows, rows::drop);
-        pushMany(rows, 0, 3, FRONT);
+        Rows.pushMany(rows, 0, 3, FRONT);
         same("drop", rows.drop(), 3);
         checks.outOfBounds("a dropped version", () -> rows.version(3, 0));
         same("the parent has no child now", rows.count(1), 1);
@@ -332,7 +286,7 @@ public final class PromisesTest {
         rows.drop();
         same("drop of the last one", rows.drop(), 1);
         checks.badState("drop again", rows::drop);
-        EndVersions full = full();
+        EndVersions full = Rows.full();
         same("drop of the hundredth", full.drop(), 99);
         same("its number is free", full.push(0, 1, BACK), 99);
     }
@@ -343,7 +297,7 @@ public final class PromisesTest {
         EndVersions rows = new EndVersions();
         same("clear of nothing", rows.clear(), 0);
         same("clear of nothing is undoable", rows.undo(), 0);
-        pushMany(rows, 0, 3, FRONT);
+        Rows.pushMany(rows, 0, 3, FRONT);
         rows.set(0, 5);
         rows.append('x');
         same("clear", rows.clear(), 3);
@@ -361,7 +315,7 @@ public final class PromisesTest {
 
     private static void versionTest() {
         EndVersions rows = new EndVersions();
-        pushMany(rows, 0, 2, FRONT);
+        Rows.pushMany(rows, 0, 2, FRONT);
         rows.push(1, 3, BACK);
         rows.pop(2, BACK);
         int[] facts = {2, 1, 1, 0, 0, -1, 3, 2, 3, 3};
@@ -419,7 +373,7 @@ public final class PromisesTest {
         checks.outOfBounds("the greatest place", () -> rows.at(3, Integer.MAX_VALUE));
         checks.outOfBounds("a place of no version", () -> rows.at(5, 0));
         checks.outOfBounds("a place of a version below 0", () -> rows.at(-1, 0));
-        int last = pushMany(rows, 0, 40, BACK);
+        int last = Rows.pushMany(rows, 0, 40, BACK);
         same("place 39", rows.at(last, 39), 39);
         checks.outOfBounds("place 40", () -> rows.at(last, 40));
     }
@@ -428,7 +382,7 @@ public final class PromisesTest {
 
     private static void stepsTest() {
         EndVersions rows = new EndVersions();
-        pushMany(rows, 0, 3, FRONT);
+        Rows.pushMany(rows, 0, 3, FRONT);
         factsAre("two in front and one in the back", rows, 3, "3 2 1 0 -1 3 0");
         same("steps to the front one", rows.steps(3, 0), 1);
         same("steps to the next one", rows.steps(3, 1), 2);
@@ -448,7 +402,7 @@ public final class PromisesTest {
 
     private static void countTest() {
         EndVersions rows = new EndVersions();
-        pushMany(rows, 0, 2, FRONT);
+        Rows.pushMany(rows, 0, 2, FRONT);
         rows.pop(2, BACK);
         rows.push(2, 5, BACK);
         rows.push(0, 6, BACK);
@@ -465,7 +419,7 @@ public final class PromisesTest {
         checks.badArgument("count 8", () -> rows.count(8));
         checks.badArgument("count -1", () -> rows.count(-1));
         checks.badArgument("the greatest count", () -> rows.count(Integer.MAX_VALUE));
-        EndVersions full = full();
+        EndVersions full = Rows.full();
         same("children of one", full.count(1), 99);
         same("depths of a star", full.count(7), 1);
     }
@@ -486,7 +440,7 @@ public final class PromisesTest {
 
     private static void commonTest() {
         EndVersions rows = new EndVersions();
-        pushMany(rows, 0, 3, FRONT);
+        Rows.pushMany(rows, 0, 3, FRONT);
         rows.push(1, 5, BACK);
         rows.push(4, 6, BACK);
         rows.push(0, 7, BACK);
@@ -550,7 +504,7 @@ public final class PromisesTest {
 
     private static void worstTest() {
         EndVersions rows = new EndVersions();
-        pushMany(rows, 0, 3, FRONT);
+        Rows.pushMany(rows, 0, 3, FRONT);
         rows.push(3, 1, FRONT);
         rows.push(1, 1, BACK);
         same("the costs 1, 1, 3", rows.worst(3), 3);
@@ -564,7 +518,7 @@ public final class PromisesTest {
 
     private static void meanTest() {
         EndVersions rows = new EndVersions();
-        pushMany(rows, 0, 3, FRONT);
+        Rows.pushMany(rows, 0, 3, FRONT);
         rows.push(3, 1, FRONT);
         rows.push(1, 1, BACK);
         checks.equal("the costs 1, 1, 3", rows.mean(3), 5.0 / 3.0);
@@ -595,13 +549,13 @@ public final class PromisesTest {
     }
 
     private static void clearTextTest() {
-        EndVersions rows = withText("f1;");
+        EndVersions rows = Rows.withText("f1;");
         same("clearText", rows.clearText(), 3);
         same("clearText again", rows.clearText(), 0);
         checks.badState("clearText is not undoable", rows::undo);
         same("an empty text has no acts", rows.run(0), 0);
         same("append begins at 1 again", rows.append('b'), 1);
-        write(rows, "-12;");
+        Rows.write(rows, "-12;");
         same("the new text is run", rows.run(0), 1);
         rowIs("the new text", rows, 1, "-12");
     }
@@ -609,7 +563,7 @@ public final class PromisesTest {
     // ---- promise 20
 
     private static void runTest() {
-        EndVersions rows = withText("f1;b-2;f003;y;x;b-0;");
+        EndVersions rows = Rows.withText("f1;b-2;f003;y;x;b-0;");
         same("run", rows.run(0), 6);
         same("each act makes a version", rows.count(0), 7);
         rowIs("acts in a row", rows, 3, "3 1 -2");
@@ -622,36 +576,36 @@ public final class PromisesTest {
         same("run from another version", rows.run(3), 6);
         same("the first parent", rows.version(7, 0), 3);
         same("the text stays", rows.clearText(), 20);
-        write(rows, "x;y;x;y;");
+        Rows.write(rows, "x;y;x;y;");
         same("up to a pop on an empty row", rows.run(3), 3);
         same("no act is done", rows.run(0), 0);
         same("a run without acts is undoable", rows.undo(), 3);
         checks.outOfBounds("run from no version", () -> rows.run(99));
         checks.outOfBounds("run from a version below 0", () -> rows.run(-1));
         rows.clearText();
-        write(rows, "q");
+        Rows.write(rows, "q");
         checks.outOfBounds("the version is looked at before the text", () -> rows.run(99));
         runLimits();
     }
 
     private static void runLimits() {
-        EndVersions rows = withText("f1;");
-        int last = pushMany(rows, 0, 40, BACK);
+        EndVersions rows = Rows.withText("f1;");
+        int last = Rows.pushMany(rows, 0, 40, BACK);
         same("a push on 40 values", rows.run(last), 0);
         rows.clearText();
-        write(rows, "x;f5;b6;x;");
+        Rows.write(rows, "x;f5;b6;x;");
         same("up to a push on 40 values", rows.run(last), 2);
-        EndVersions full = full();
+        EndVersions full = Rows.full();
         full.drop();
         full.drop();
-        write(full, "x;f1;b2;");
+        Rows.write(full, "x;f1;b2;");
         same("up to 100 versions", full.run(1), 2);
         same("100 versions", full.count(0), 100);
         same("no act at 100 versions", full.run(1), 0);
-        EndVersions fifty = withText("f1;".repeat(20) + "x;".repeat(20));
+        EndVersions fifty = Rows.withText("f1;".repeat(20) + "x;".repeat(20));
         same("forty acts", fifty.run(0), 40);
-        EndVersions pops = withText("x;".repeat(50));
-        int forty = pushMany(pops, 0, 40, FRONT);
+        EndVersions pops = Rows.withText("x;".repeat(50));
+        int forty = Rows.pushMany(pops, 0, 40, FRONT);
         same("fifty acts, forty values", pops.run(forty), 40);
     }
 
@@ -663,7 +617,7 @@ public final class PromisesTest {
             1, 1, 2, 0, 0, 1, 7, 5, 11, 1, 0, 0, 0,
             7, 1, 1, 6, 0, 2, 4, 5};
         for (int i = 0; i < texts.length; i++) {
-            EndVersions rows = withText(texts[i]);
+            EndVersions rows = Rows.withText(texts[i]);
             String told = "run of '" + texts[i] + "'";
             if (errors[i] < 0) {
                 same(told, rows.run(0), 0);
@@ -676,7 +630,7 @@ public final class PromisesTest {
                 checks.badState(told + " with leastRate", () -> rows.leastRate(0));
             }
         }
-        EndVersions ends = withText("x;".repeat(49) + "f1");
+        EndVersions ends = Rows.withText("x;".repeat(49) + "f1");
         same("a text of 100 bytes that ends too early", ends.run(0), -110);
     }
 
@@ -686,15 +640,15 @@ public final class PromisesTest {
     private static final String STALLING = "f1;f2;y;f3;f4;y;";
 
     private static void stallsTest() {
-        EndVersions rows = withText(STALLING);
+        EndVersions rows = Rows.withText(STALLING);
         long before = rows.digest();
         same("stalls with 3", rows.stalls(0, 3), 1);
         same("stalls with 1", rows.stalls(0, 1), 2);
         same("stalls change nothing", rows.digest(), before);
-        same("from a version with a rebuild", pushMany(rows, 0, 2, FRONT), 2);
+        same("from a version with a rebuild", Rows.pushMany(rows, 0, 2, FRONT), 2);
         rows.clearText();
         same("without acts", rows.stalls(2, 1), 0);
-        write(rows, "y;y;y;");
+        Rows.write(rows, "y;y;y;");
         same("up to the first act that is not possible", rows.stalls(2, 9), 1);
         same("no act is possible", rows.stalls(0, 9), 0);
         checks.outOfBounds("stalls from no version", () -> rows.stalls(3, 1));
@@ -708,11 +662,11 @@ public final class PromisesTest {
     }
 
     private static void stallsAtHundred() {
-        EndVersions rows = full();
+        EndVersions rows = Rows.full();
         rows.drop();
         rows.drop();
         rows.drop();
-        write(rows, "f2;y;");
+        Rows.write(rows, "f2;y;");
         same("two acts of two", rows.stalls(1, 1), 1);
         same("two costs", rows.worstWith(1, 1), 3);
         same("a stall with each rate", rows.leastRate(1), -1);
@@ -727,16 +681,16 @@ public final class PromisesTest {
     }
 
     private static void worstWithTest() {
-        EndVersions rows = withText("f1;f2;f3;f4;");
+        EndVersions rows = Rows.withText("f1;f2;f3;f4;");
         long before = rows.digest();
         same("pays 2 of 2", rows.worstWith(0, 9), 3);
         same("pays 1 of 2", rows.worstWith(0, 1), 2);
         same("worstWith changes nothing", rows.digest(), before);
         rows.clearText();
         same("without acts", rows.worstWith(0, 1), 0);
-        write(rows, "x;");
+        Rows.write(rows, "x;");
         same("no act is possible", rows.worstWith(0, 1), 0);
-        pushMany(rows, 0, 2, FRONT);
+        Rows.pushMany(rows, 0, 2, FRONT);
         rows.set(0, 1);
         same("the debt of the start", rows.worstWith(2, 9), 3);
         same("the rate of the call holds", rows.worstWith(2, 2), 3);
@@ -753,7 +707,7 @@ public final class PromisesTest {
 
     // Three beside nothing are too many with each ratio; four beside one only with the ratio 2.
     private static void ratioOfTheQuestion() {
-        EndVersions rows = withText("b1;f2;f3;f4;f5;f6;");
+        EndVersions rows = Rows.withText("b1;f2;f3;f4;f5;f6;");
         rows.set(1, 2);
         same("the ratio 2 has a rebuild", rows.worstWith(0, 9), 6);
         rows.set(1, 5);
@@ -761,16 +715,16 @@ public final class PromisesTest {
     }
 
     private static void leastRateTest() {
-        EndVersions rows = withText("f1;f2;f3;y;");
+        EndVersions rows = Rows.withText("f1;f2;f3;y;");
         long before = rows.digest();
         same("the debt 2 has one act to be paid in", rows.leastRate(0), 2);
         same("leastRate changes nothing", rows.digest(), before);
         rows.clearText();
         same("without acts", rows.leastRate(0), 1);
-        write(rows, STALLING);
+        Rows.write(rows, STALLING);
         same("stalls with each rate", rows.leastRate(0), -1);
         rows.clearText();
-        write(rows, "x;y;");
+        Rows.write(rows, "x;y;");
         same("no act is possible", rows.leastRate(0), 1);
         checks.outOfBounds("leastRate from no version", () -> rows.leastRate(1));
         rows.append('1');
@@ -784,16 +738,16 @@ public final class PromisesTest {
     private static void higherLeastRates() {
         EndVersions rows = new EndVersions();
         rows.set(1, 5);
-        write(rows, "b1;f2;b3;f4;f5;f6;f7;f8;f9;");
+        Rows.write(rows, "b1;f2;b3;f4;f5;f6;f7;f8;f9;");
         same("nine acts", rows.run(0), 9);
         factsAre("the ratio 5 lets seven stand beside two", rows, 9, "9 7 2 0 -1 1 0");
         rows.set(1, 2);
         rows.clearText();
-        write(rows, "f0;y;y;y;");
+        Rows.write(rows, "f0;y;y;y;");
         same("the debt 10 has two acts to be paid in", rows.leastRate(9), 5);
         same("it stalls with 4", rows.stalls(9, 4), 1);
         rows.clearText();
-        write(rows, "f0;f0;f0;f0;f0;f0;f0;y;y;y;");
+        Rows.write(rows, "f0;f0;f0;f0;f0;f0;f0;y;y;y;");
         same("the debt 10 has six acts more to be paid in", rows.leastRate(9), 2);
     }
 
@@ -801,13 +755,13 @@ public final class PromisesTest {
     private static void highestLeastRate() {
         EndVersions rows = new EndVersions();
         rows.set(1, 5);
-        write(rows, "b1;f2;b3;f4;b5;" + "f6;".repeat(13));
+        Rows.write(rows, "b1;f2;b3;f4;b5;" + "f6;".repeat(13));
         same("eighteen acts", rows.run(0), 18);
         factsAre("the ratio 5 lets fifteen stand beside three", rows, 18, "18 15 3 0 -1 1 0");
         rows.clearText();
-        write(rows, "y;y;y;");
+        Rows.write(rows, "y;y;y;");
         same("no part is empty yet", rows.leastRate(18), 1);
-        write(rows, "y;");
+        Rows.write(rows, "y;");
         same("only the rate 9 pays it in two acts", rows.leastRate(18), 9);
         same("it stalls with 8", rows.stalls(18, 8), 1);
         same("the stall with 8 takes the 1 that is left", rows.worstWith(18, 8), 9);
@@ -820,7 +774,7 @@ public final class PromisesTest {
         EndVersions rows = new EndVersions();
         checks.badState("undo of nothing", rows::undo);
         checks.changesNothing("undo of nothing", rows, rows::undo);
-        pushMany(rows, 0, 6, BACK);
+        Rows.pushMany(rows, 0, 6, BACK);
         for (int left = 3; left >= 0; left--) {
             same("undo", rows.undo(), left);
             same("versions after undo", rows.count(0), 3 + left);
@@ -856,8 +810,8 @@ public final class PromisesTest {
     }
 
     private static void undoOfEach() {
-        EndVersions rows = withText("f1;b2;y;");
-        pushMany(rows, 0, 2, FRONT);
+        EndVersions rows = Rows.withText("f1;b2;y;");
+        Rows.pushMany(rows, 0, 2, FRONT);
         rows.pop(2, BACK);
         long before = digestOfVersions(rows);
         int saved = 3;
